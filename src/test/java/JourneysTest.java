@@ -200,6 +200,28 @@ public final class JourneysTest {
     flows(x, "and a great one", 0, 3, 22);
   }
 
+  private static void thirtyHops() {
+    RingTransit x = withStops(0, 0, 0, 0, 0, 0, 0, 0, 0, 0);
+    for (int line = 0; line < 5; line++) {
+      line(x, 10, 0, 2, 20, 4, 5, 6, 7, 8, 9);
+    }
+    flows(x, "all seats", 4, 9, 100);
+    flows(x, "all seats on the last hop", 9, 4, 100);
+    flows(x, "off all lines", 0, 4, 0);
+  }
+
+  /** Only the arrival at 0 gets better in the second round, not when the traveller is ready. */
+  private static void soonerThereButNotReadySooner() {
+    RingTransit x = withStops(9, 0, 0, 0);
+    line(x, 60, 0, 5, 1, 3, 2);
+    line(x, 60, 5, 3, 1, 2, 0);
+    x.addWalk(3, 0, 12);
+    x.addWalk(3, 1, 11);
+    x.addWalk(0, 1, 1);
+    arrives(x, "a walk after the second ride", 3, 1, 0, 9);
+    arrives(x, "there sooner", 3, 0, 0, 8);
+  }
+
   private static void wrongArguments() {
     RingTransit x = withStops(0, 0);
     for (int stop : new int[] {-1, 2, Integer.MIN_VALUE, Integer.MAX_VALUE, 64}) {
@@ -251,6 +273,8 @@ public final class JourneysTest {
     soleLineBackwards();
     flowAddsLines();
     flowGivesWay();
+    thirtyHops();
+    soonerThereButNotReadySooner();
     wrongArguments();
     consistentLate();
     Check.end("JourneysTest");

@@ -170,6 +170,56 @@ public final class UndoTest {
     Check.same("62 dry", false, x.isRaining());
   }
 
+  /** What comes in the place of something undone must take nothing from it, nor leave a trace. */
+  private static void placesAreTakenAgain() {
+    RingTransit x = new RingTransit();
+    x.addStop(3);
+    x.addLine(7, 5, 3, 9);
+    x.setRainDelay(0, 4);
+    x.setSuspended(0, true);
+    x.extendLine(0, 0);
+    x.setClosed(0, true);
+    x.save();
+    String was = text(x);
+    for (int left = 5; left >= 0; left--) {
+      Check.same("60 left", left, x.undo());
+    }
+    x.addStop(8);
+    x.addStop(1);
+    x.addLine(60, 59, 9, 20);
+    Check.same("60 new line", "0false21 0 0 0 0", text(x).substring(0, 16));
+    Check.same("60 new stop is open", false, x.isClosed(0));
+    Check.same("60 new ring is empty", 0, x.ringSize(0));
+    x.extendLine(0, 1);
+    x.extendLine(0, 0);
+    Check.same("60 new line is not suspended", true, x.runs(0));
+    Check.same("60 new line has no rain delay", 0, x.setRainDelay(0, 1));
+    x.restore();
+    Check.same("62 all of the old line and stop", was, text(x));
+    Check.same("62 rain delay", 4, x.setRainDelay(0, 0));
+    Check.same("62 transfer", 3, x.transferMinutes(0));
+  }
+
+  private static void ticketsComeBackWhole() {
+    RingTransit x = withRing();
+    x.sellTicket(0, 7, 1, 3);
+    x.save();
+    x.refund(0);
+    x.refund(1);
+    x.setRain(true);
+    x.sellTicket(0, 8, 0, 1);
+    x.sellTicket(0, 9, 2, 3);
+    x.restore();
+    int length = x.renderTicket(1);
+    StringBuilder text = new StringBuilder();
+    for (int index = 0; index < length; index++) {
+      text.append(x.outputAt(index));
+    }
+    Check.same("62 ticket", "#1 0.7 1>3=6", text.toString());
+    Check.same("62 first ticket", 50, x.ticketTrip(0));
+    Check.same("62 its price", 6, x.ticketPrice(0));
+  }
+
   private static void undoAndSnapshotAreApart() {
     RingTransit x = withRing();
     x.addStop(9);
@@ -200,6 +250,8 @@ public final class UndoTest {
     eightChanges();
     ticketIds();
     snapshots();
+    placesAreTakenAgain();
+    ticketsComeBackWhole();
     undoAndSnapshotAreApart();
     bufferStays();
     Check.end("UndoTest");
