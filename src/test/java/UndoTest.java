@@ -200,6 +200,28 @@ public final class UndoTest {
     Check.same("62 transfer", 3, x.transferMinutes(0));
   }
 
+  private static void newLineAfterRestoreIsNew() {
+    RingTransit x = new RingTransit();
+    x.addStop(0);
+    x.addStop(0);
+    x.save();
+    x.addLine(7, 5, 3, 9);
+    x.extendLine(0, 1);
+    x.setRainDelay(0, 4);
+    x.setSuspended(0, true);
+    x.setClosed(1, true);
+    x.addStop(0);
+    x.setClosed(2, true);
+    x.restore();
+    Check.same("62 line is gone", 0, x.lineCount());
+    x.addLine(8, 0, 1, 1);
+    Check.same("5 empty ring", 0, x.ringSize(0));
+    Check.same("5 no rain delay", 0, x.setRainDelay(0, 1));
+    Check.same("5 not suspended", false, x.setSuspended(0, false));
+    x.addStop(0);
+    Check.same("2 open stop", false, x.isClosed(2));
+  }
+
   private static void ticketsComeBackWhole() {
     RingTransit x = withRing();
     x.sellTicket(0, 7, 1, 3);
@@ -251,6 +273,7 @@ public final class UndoTest {
     ticketIds();
     snapshots();
     placesAreTakenAgain();
+    newLineAfterRestoreIsNew();
     ticketsComeBackWhole();
     undoAndSnapshotAreApart();
     bufferStays();
