@@ -950,7 +950,7 @@ public final class RingTransit {
       return stopCount < MOST_STOPS ? Fault.NOTHING : Fault.STATE;
     }
 
-    /** Adds an open stop; an undone one may have left its mark on the row. */
+    /** Adds an open stop. */
     int putStop(int minutes) {
       if (stopCount >= MOST_STOPS) {
         return NONE;
@@ -1494,7 +1494,8 @@ public final class RingTransit {
       hopCount = 0;
       for (int index = 0; index < network.lineCount; index++) {
         Line line = network.lines[index];
-        for (int position = 0; line.isRunning() && position < line.size; position++) {
+        int hops = line.isRunning() ? line.size : 0;
+        for (int position = 0; position < hops && hopCount < MOST_HOPS; position++) {
           hopStart[hopCount] = line.stopOn(position);
           hopEnd[hopCount] = line.stopOn(position + 1);
           hopSeats[hopCount] = line.seats;

@@ -111,6 +111,33 @@ public final class FaceTest {
     }
   }
 
+  private static void sizes() throws IOException {
+    List<Class<?>> classes = new ArrayList<>(Arrays.asList(RingTransit.class.getDeclaredClasses()));
+    classes.add(RingTransit.class);
+    for (Class<?> one : classes) {
+      for (Method method : one.getDeclaredMethods()) {
+        Check.same("rule 11: " + method, true, method.getParameterCount() <= 7);
+      }
+    }
+    List<String> lines = Files.readAllLines(SOURCE);
+    String indent = "  ";
+    int start = 0;
+    int methods = 0;
+    for (int line = 0; line < lines.size(); line++) {
+      if (lines.get(line).matches("  private.* (class|enum) .*")) {
+        indent = "    ";
+      }
+      if (lines.get(line).matches(indent + "\\w.*\\(.*")) {
+        start = line;
+      }
+      if (lines.get(line).equals(indent + "}")) {
+        methods++;
+        Check.same("rule 11: the method at line " + (start + 1), true, line - start <= 60);
+      }
+    }
+    Check.same("rule 11: methods were found", true, methods > 150);
+  }
+
   private static void words() throws IOException {
     String source = Files.readString(SOURCE);
     String[] barred = {
@@ -138,6 +165,7 @@ public final class FaceTest {
   public static void main(String[] args) throws IOException {
     face();
     fields();
+    sizes();
     words();
     Check.end("FaceTest");
   }
